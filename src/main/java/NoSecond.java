@@ -178,15 +178,16 @@ public final class NoSecond {
             reader.size = 0;
             return refuse(BY_NO_ROOM);
         }
-        if (!reader.readText(true)) {
-            return refuse(BY_TEXT);
-        }
-        return grant(isles.addLaw(reader.code.kept()));
+        boolean isText = reader.readText(true);
+        reader.size = 0;
+        return isText ? grant(isles.addLaw(reader.code.kept())) : refuse(BY_TEXT);
     }
 
     public int orders() {
         stoppedAt = NONE;
-        if (!reader.readText(false)) {
+        boolean isText = reader.readText(false);
+        reader.size = 0;
+        if (!isText) {
             return refuse(BY_TEXT);
         }
         movingAhead.set(isles.now);
@@ -489,8 +490,12 @@ public final class NoSecond {
 
     /** What races, entries, takings and years change: so all that undo() has to bring back. */
     private static final class Moving {
+        /** How many numbers it is, written into a row. */
+        static final int WIDTH = 2 * PEOPLE_MOST + 3;
+
         final int[] trade = new int[PEOPLE_MOST];
         final int[] prizes = new int[PEOPLE_MOST];
+        // As bits.
         int entered = 0;
         int gap = 0;
         int year = 0;
@@ -501,6 +506,28 @@ public final class NoSecond {
             entered = from.entered;
             gap = from.gap;
             year = from.year;
+        }
+
+        void writeTo(int[] rows, int at) {
+            if (at < 0 || at > rows.length - WIDTH) {
+                return;
+            }
+            System.arraycopy(trade, 0, rows, at, PEOPLE_MOST);
+            System.arraycopy(prizes, 0, rows, at + PEOPLE_MOST, PEOPLE_MOST);
+            rows[at + WIDTH - 3] = entered;
+            rows[at + WIDTH - 2] = gap;
+            rows[at + WIDTH - 1] = year;
+        }
+
+        void readFrom(int[] rows, int at) {
+            if (at < 0 || at > rows.length - WIDTH) {
+                return;
+            }
+            System.arraycopy(rows, at, trade, 0, PEOPLE_MOST);
+            System.arraycopy(rows, at + PEOPLE_MOST, prizes, 0, PEOPLE_MOST);
+            entered = rows[at + WIDTH - 3];
+            gap = rows[at + WIDTH - 2];
+            year = rows[at + WIDTH - 1];
         }
 
         boolean isIn(int person) {
@@ -525,15 +552,9 @@ public final class NoSecond {
     /** The latest moves, each with what stood ahead of it; a ring, the oldest of which is let go. */
     private static final class Past {
         final int[] kind = new int[PAST_MOST];
-        final Moving[] ahead = new Moving[PAST_MOST];
+        final int[] ahead = new int[PAST_MOST * Moving.WIDTH];
         int first = 0;
         int size = 0;
-
-        Past() {
-            for (int i = 0; i < PAST_MOST; i++) {
-                ahead[i] = new Moving();
-            }
-        }
 
         void clear() {
             first = 0;
@@ -547,7 +568,7 @@ public final class NoSecond {
             }
             int at = (first + size) % PAST_MOST;
             kind[at] = moveKind;
-            ahead[at].set(now);
+            now.writeTo(ahead, at * Moving.WIDTH);
             size++;
         }
 
@@ -557,17 +578,15 @@ public final class NoSecond {
             }
             size--;
             int at = (first + size) % PAST_MOST;
-            now.set(ahead[at]);
+            now.readFrom(ahead, at * Moving.WIDTH);
             return kind[at];
         }
 
         void set(Past from) {
             first = from.first;
             size = from.size;
-            for (int i = 0; i < PAST_MOST; i++) {
-                kind[i] = from.kind[i];
-                ahead[i].set(from.ahead[i]);
-            }
+            System.arraycopy(from.kind, 0, kind, 0, PAST_MOST);
+            System.arraycopy(from.ahead, 0, ahead, 0, PAST_MOST * Moving.WIDTH);
         }
     }
 
@@ -814,7 +833,6 @@ public final class NoSecond {
             return at >= 0 && at < size && at < TAPE_MOST ? tape[at] : NONE;
         }
 
-        /** Reads all that is on the tape, which is empty then. */
         boolean readText(boolean asLaw) {
             isLaw = asLaw;
             code.clear();
@@ -822,12 +840,6 @@ public final class NoSecond {
             fault = NONE;
             next = 0;
             step();
-            boolean isText = readClauses();
-            size = 0;
-            return isText;
-        }
-
-        boolean readClauses() {
             for (int n = 0; n < Code.CLAUSES_MOST; n++) {
                 if (!readClause(n)) {
                     return false;
@@ -843,7 +855,7 @@ public final class NoSecond {
             return stop();
         }
 
-        boolean readClause(int n) {
+        private boolean readClause(int n) {
             int kind = wordOf(isLaw ? LAW_CLAUSES : ORDER_CLAUSES);
             if (kind == NONE || n < 0 || n >= Code.CLAUSES_MOST) {
                 return stop();
@@ -875,7 +887,7 @@ public final class NoSecond {
             return true;
         }
 
-        boolean readTest(int brackets) {
+        private boolean readTest(int brackets) {
             if (!readBoth(brackets)) {
                 return false;
             }
@@ -890,7 +902,7 @@ public final class NoSecond {
             return true;
         }
 
-        boolean readBoth(int brackets) {
+        private boolean readBoth(int brackets) {
             if (!readPlain(brackets)) {
                 return false;
             }
@@ -906,7 +918,7 @@ public final class NoSecond {
         }
 
         /** Many "not" behind one another are told apart by their number, so that none goes deeper. */
-        boolean readPlain(int brackets) {
+        private boolean readPlain(int brackets) {
             boolean isNot = false;
             for (int n = 0; n < TAPE_MOST && isWord("not"); n++) {
                 step();
@@ -944,7 +956,7 @@ public final class NoSecond {
             return true;
         }
 
-        boolean readSum(int brackets) {
+        private boolean readSum(int brackets) {
             if (!readTerm(brackets)) {
                 return false;
             }
@@ -959,7 +971,7 @@ public final class NoSecond {
             return true;
         }
 
-        boolean readTerm(int brackets) {
+        private boolean readTerm(int brackets) {
             if (!readPart(brackets)) {
                 return false;
             }
@@ -974,7 +986,7 @@ public final class NoSecond {
             return true;
         }
 
-        boolean readPart(int brackets) {
+        private boolean readPart(int brackets) {
             if (!isSign('[')) {
                 return readSinglePart();
             }
@@ -992,7 +1004,7 @@ public final class NoSecond {
             return true;
         }
 
-        boolean readSinglePart() {
+        private boolean readSinglePart() {
             boolean isNumber = token == IS_NUMBER && number <= NUMBER_MOST;
             int word = wordOf(isLaw ? LAW_WORDS : ORDER_WORDS);
             if (!isNumber && word == NONE || parts >= PARTS_MOST) {
@@ -1017,13 +1029,13 @@ public final class NoSecond {
             return true;
         }
 
-        boolean stop() {
+        private boolean stop() {
             fault = tokenAt;
             return false;
         }
 
         /** Looks at the next token. */
-        void step() {
+        private void step() {
             int at = next;
             while (at < size && byteAt(at) == ' ') {
                 at++;
@@ -1052,24 +1064,24 @@ public final class NoSecond {
             }
         }
 
-        static boolean isLetter(int c) {
+        private static boolean isLetter(int c) {
             return c >= 'a' && c <= 'z';
         }
 
-        static boolean isDigit(int c) {
+        private static boolean isDigit(int c) {
             return c >= '0' && c <= '9';
         }
 
-        boolean isSign(char sign) {
+        private boolean isSign(char sign) {
             return token == IS_SIGN && byteAt(tokenAt) == sign;
         }
 
-        boolean isWord(String word) {
+        private boolean isWord(String word) {
             return wordOf(word) == 0;
         }
 
         /** Which of the words of a list the token is; NONE if it is none of them. */
-        int wordOf(String list) {
+        private int wordOf(String list) {
             if (token != IS_WORD) {
                 return NONE;
             }
@@ -1087,7 +1099,7 @@ public final class NoSecond {
             return NONE;
         }
 
-        boolean isSame(String list, int from, int to) {
+        private boolean isSame(String list, int from, int to) {
             int length = to - from;
             if (from < 0 || to > list.length() || length != next - tokenAt || tokenAt < 0 || next > TAPE_MOST) {
                 return false;
@@ -1187,11 +1199,11 @@ public final class NoSecond {
             return top == 1 ? stack[0] : BROKEN;
         }
 
-        long wordWorth(int word) {
+        private long wordWorth(int word) {
             return word >= 0 && word < WORDS_MOST ? words[word] : BROKEN;
         }
 
-        static long joined(int step, long left, long right) {
+        private static long joined(int step, long left, long right) {
             long n = BROKEN;
             switch (step) {
                 case Code.ADD: n = left + right; break;
@@ -1223,7 +1235,7 @@ public final class NoSecond {
         }
 
         /** What the last clause of a kind that holds tells; BROKEN if none holds. */
-        long told(Code law, int kind, int person, int race, int place) {
+        private long told(Code law, int kind, int person, int race, int place) {
             if (law == null || !isles.isPerson(person) || !isRace(race)) {
                 return Machine.BROKEN;
             }
@@ -1253,12 +1265,12 @@ public final class NoSecond {
             return n == Machine.BROKEN ? (isles.now.trade[person] + 1) % TRADES : nearest(n, TRADES - 1);
         }
 
-        int wins(Code law, int person, int race, int place) {
+        private int wins(Code law, int person, int race, int place) {
             long n = told(law, WINS, person, race, place);
             return n == Machine.BROKEN ? 4 - place : nearest(n, 9);
         }
 
-        static int nearest(long n, int most) {
+        private static int nearest(long n, int most) {
             return (int) Math.max(0L, Math.min(n, (long) most));
         }
 
@@ -1310,7 +1322,7 @@ public final class NoSecond {
         }
 
         /** Of the race that is lined up. What each wins and turns to is asked ahead of any change. */
-        int heldRace(int race) {
+        private int heldRace(int race) {
             Code law = isles.lawInForce();
             int first = at(1);
             int second = at(2);
@@ -1334,19 +1346,19 @@ public final class NoSecond {
             return first;
         }
 
-        int changedEntry(int person) {
+        private int changedEntry(int person) {
             isles.now.entered ^= 1 << person;
             return isles.now.entered >> person & 1;
         }
 
-        int takenGap(int person) {
+        private int takenGap(int person) {
             int was = isles.now.gap;
             isles.now.addPrizes(person, was);
             isles.now.gap = 0;
             return was;
         }
 
-        int passedYear() {
+        private int passedYear() {
             Code law = isles.lawInForce();
             int turned = 0;
             for (int p = 0; p < isles.people; p++) {
@@ -1359,7 +1371,7 @@ public final class NoSecond {
             return turned;
         }
 
-        boolean hasTradeOfLower(int person) {
+        private boolean hasTradeOfLower(int person) {
             for (int q = 0; q < person; q++) {
                 if (isles.now.trade[q] == isles.now.trade[person]) {
                     return true;
@@ -1396,7 +1408,7 @@ public final class NoSecond {
         }
 
         /** How all would run in a race; NONE for those barred. */
-        void setScores(int race) {
+        private void setScores(int race) {
             Code law = isles.lawInForce();
             for (int p = 0; p < isles.people; p++) {
                 score[race * PEOPLE_MOST + p] = court.isBarred(law, p, race) ? NONE : court.runsBy(law, p, race);
@@ -1404,7 +1416,7 @@ public final class NoSecond {
         }
 
         /** By the scores that are set: those not barred who would be ahead of a person, as bits. */
-        int aheadOf(int person, int race) {
+        private int aheadOf(int person, int race) {
             int own = score[race * PEOPLE_MOST + person];
             int ahead = 0;
             for (int q = 0; q < isles.people; q++) {
@@ -1432,7 +1444,7 @@ public final class NoSecond {
         }
 
         /** NONE, if there are not so many. */
-        static int lowestBits(int bits, int n) {
+        private static int lowestBits(int bits, int n) {
             int lowest = 0;
             int left = bits;
             for (int i = 0; i < n; i++) {
@@ -1456,7 +1468,7 @@ public final class NoSecond {
             return bits;
         }
 
-        boolean fitsAllSeen(int person) {
+        private boolean fitsAllSeen(int person) {
             for (int i = 0; i < isles.seenCount; i++) {
                 if (court.turnsTo(isles.lawInForce(), person, isles.seenRace[i]) != isles.seenTrade[i]) {
                     return false;
@@ -1483,7 +1495,7 @@ public final class NoSecond {
         }
 
         /** The most of these people who would turn alike in a race. */
-        int alikeMost(int people, int race) {
+        private int alikeMost(int people, int race) {
             Arrays.fill(alike, 0);
             int most = 0;
             for (int p = 0; p < isles.people; p++) {
@@ -1519,11 +1531,11 @@ public final class NoSecond {
         }
 
         /** How many beats are broken from here on, if a person comes next behind those ranked. */
-        int brokenBy(int person, int ranked) {
+        private int brokenBy(int person, int ranked) {
             return Integer.bitCount(isles.beaten[person] & ranked) + best[ranked | 1 << person];
         }
 
-        int firstNext(int ranked) {
+        private int firstNext(int ranked) {
             for (int p = 0; p < isles.people; p++) {
                 if ((ranked >> p & 1) == 0 && brokenBy(p, ranked) == best[ranked]) {
                     return p;
@@ -1546,7 +1558,7 @@ public final class NoSecond {
             return circles;
         }
 
-        boolean isCircle(int a, int b, int c) {
+        private boolean isCircle(int a, int b, int c) {
             return (isles.beaten[a] >> b & isles.beaten[b] >> c & isles.beaten[c] >> a & 1) == 1;
         }
 
@@ -1572,7 +1584,7 @@ public final class NoSecond {
             return best[0];
         }
 
-        int bestFrom(int race, int used) {
+        private int bestFrom(int race, int used) {
             int most = best[(race + 1) * SETS + used];
             for (int p = 0; p < isles.people; p++) {
                 most = Math.max(most, scoreWith(p, race, used));
@@ -1581,7 +1593,7 @@ public final class NoSecond {
         }
 
         /** NONE, if she is barred or used already. */
-        int scoreWith(int person, int race, int used) {
+        private int scoreWith(int person, int race, int used) {
             int own = score[race * PEOPLE_MOST + person];
             if (own == NONE || (used >> person & 1) == 1) {
                 return NONE;
@@ -1589,7 +1601,7 @@ public final class NoSecond {
             return own + best[(race + 1) * SETS + (used | 1 << person)];
         }
 
-        int firstCrowned(int race, int used) {
+        private int firstCrowned(int race, int used) {
             for (int p = 0; p < isles.people; p++) {
                 if (scoreWith(p, race, used) == best[race * SETS + used]) {
                     return p;
@@ -1615,7 +1627,7 @@ public final class NoSecond {
         }
 
         /** The last comes first, so that the lowest number is on top. */
-        int awaitChildren(int parent, int top) {
+        private int awaitChildren(int parent, int top) {
             int above = top;
             for (int p = isles.people - 1; p >= 0; p--) {
                 if (isles.parent[p] == parent && above < PEOPLE_MOST) {
@@ -1627,7 +1639,7 @@ public final class NoSecond {
         }
 
         /** How many of the same parent, or of those without, have a lower number. */
-        int elders(int person) {
+        private int elders(int person) {
             int elders = 0;
             for (int q = 0; q < person; q++) {
                 if (isles.parent[q] == isles.parent[person]) {

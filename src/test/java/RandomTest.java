@@ -165,7 +165,7 @@ public final class RandomTest {
   private static void someCall() throws Exception {
     Method m = pick(2) == 0 ? named(pick(OFTEN)) : FACE[pick(FACE.length)];
     String name = m.getName();
-    if (name.equals("forget") && pick(4) != 0 || name.equals("terms") && pick(4) != 0 || name.equals("back") && pick(6) != 0) return;
+    if (name.equals("forget") && pick(4) != 0 || name.equals("terms") && pick(4) != 0 || name.equals("back") && pick(3) != 0) return;
     Object[] args = new Object[m.getParameterCount()];
     for (int i = 0; i < args.length; i++) args[i] = number();
     if (name.equals("person")) { args[0] = pick(10); if (pick(4) != 0) args[1] = pick(Math.max(1, ((Oracle) both[1]).w.people.size())) - (pick(3) == 0 ? 1 : 0); }
@@ -174,7 +174,11 @@ public final class RandomTest {
     if (name.equals("be") && pick(5) != 0) { args[0] = pick(7); args[1] = pick(4); args[2] = 1 + pick(5); args[3] = pick(2); }
     if (name.equals("of") || name.equals("count") || name.equals("terms")) args[args.length - 1] = name.equals("terms") ? pick(11) : pick(19) - 1;
     if (name.equals("of") && pick(6) != 0) { args[0] = pick(7); args[1] = pick(16); }
-    if (name.equals("terms")) { args[0] = pick(4); if (pick(6) == 0) args[1] = 940 + pick(62); }
+    if (name.equals("terms")) { args[0] = pick(4); if (pick(3) == 0) { args[0] = 0; args[1] = 940 + pick(62); } }
+    if (name.equals("image") || name.equals("back")) args[0] = pick(8) == 0 ? number() : pick(2);
+    if (name.equals("placed") || name.equals("compare")) { args[0] = pick(5) - (name.equals("compare") ? 1 : 0); args[1] = pick(5); }
+    if (name.equals("look") || name.equals("crowned")) args[0] = pick(6);
+    if (name.equals("seen") && pick(4) != 0) { args[0] = pick(4); args[1] = pick(10); }
     if (name.equals("centuries")) { args[0] = pick(1_000_002); args[1] = pick(4) == 0 ? number() : 1 + pick(60); }
     if (name.equals("few")) { args[0] = pick(22); args[1] = pick(102); }
     if (name.equals("ladder")) { args[0] = pick(63); args[1] = pick(7); }
@@ -191,6 +195,9 @@ public final class RandomTest {
     int people = pick(8);
     for (int i = 0; i < people; i++) call(named("person"), pick(10), pick(i + 1) - 1);
     for (int i = 0; i < people; i++) for (int r = 0; r < 4; r++) if (pick(2) == 0) call(named("strength"), i, r, pick(10));
+    int quarrels = pick(3) == 0 ? 30 : 0;
+    for (int i = 0; i < quarrels; i++) call(named("beats"), pick(7), pick(7), 1);
+    if (pick(4) == 0) call(named("terms"), 0, 985 + pick(15));
     boolean wordy = pick(2) == 0;
     while (calls < 512 && !wrong) {
       int k = pick(wordy ? 12 : 40);
