@@ -646,21 +646,11 @@ public final class NoSecond {
             if (people >= PEOPLE_MOST) {
                 return NONE;
             }
-            // What a person had who is gone since back() still stands in these rows.
-            int added = people;
-            now.trade[added] = trade;
-            now.prizes[added] = 0;
-            now.entered &= ~(1 << added);
-            parent[added] = parentOrNone;
-            beaten[added] = 0;
-            for (int p = 0; p < added; p++) {
-                beaten[p] &= ~(1 << added);
-            }
-            for (int r = 0; r < RACES; r++) {
-                strength[added * RACES + r] = 0;
-            }
+            // All else is 0 here: nobody had this number yet, or back() has brought the time ahead of her.
+            now.trade[people] = trade;
+            parent[people] = parentOrNone;
             people++;
-            return added;
+            return people - 1;
         }
 
         int addLaw(Code code) {

@@ -264,6 +264,9 @@ public final class PromiseTest {
     fault(true, "bars if " + "(".repeat(9) + "1=1" + ")".repeat(9), 16);
     fault(true, "runs [1]+" + "[".repeat(8) + "1" + "]".repeat(8), -1);
     fault(true, "bars if " + "not ".repeat(96) + "1=1 ", -1);
+    fault(true, " ".repeat(396) + "bars", -1);
+    fault(true, " ".repeat(395) + "runs1", -1);
+    fault(true, " ".repeat(396) + "runs", 400);
   }
 
   private static void sums() {
@@ -345,6 +348,12 @@ public final class PromiseTest {
     due("13 undo of orders", x.undo(), 3);
     due("13 undo of orders", x.undo(), 1);
     due("13 entered", x.of(1, 2), 0);
+    NoSecond y = Support.isles(1, 1);
+    due("13 kinds", Support.orders(y, "pass;enter 0;pass;enter 0;pass;enter 0;pass;enter 0;enter 0;race 0;pass times 6"), 16);
+    due("13 overwritten", Support.orders(y, "enter 0 times 20; enter 0 times 20; take 0"), -3);
+    int[] kinds = {3, 3, 3, 3, 3, 3, 0, 1, 1, 3, 1, 3, 1, 3, 1, 3};
+    for (int kind : kinds) due("13 as it was: what can be undone", y.undo(), kind);
+    due("13 all undone", y.count(14) + y.count(1) + y.count(3), 0);
   }
 
   private static void orderWords() {
@@ -544,6 +553,9 @@ public final class PromiseTest {
     due("22 the best one", x.be(4, 0, 1, 0), 0);
     due("22 the best one", x.be(4, 0, 2, 0), -1);
     due("22 alike", x.be(2, 0, 4, 0), 0);
+    NoSecond seven = Support.isles(7, 6, 5, 4, 3, 2, 1);
+    due("22 place 7", seven.be(6, 0, 7, 0), 6);
+    due("22 place 7", seven.be(6, 0, 7, 1), 63);
     int[][] wrong = {{5, 0, 1, 0}, {-1, 0, 1, 0}, {0, 4, 1, 0}, {0, -1, 1, 0}, {0, 0, 0, 0}, {0, 0, 8, 0}, {0, 0, 1, 2}, {0, 0, 1, -1}};
     for (int[] w : wrong) due("22 wrong", x.be(w[0], w[1], w[2], w[3]), -1);
     Support.rule(x, "bars if person = 1 or person = 3");
@@ -601,6 +613,11 @@ public final class PromiseTest {
     Support.rule(x, "turns person / 4 if race = 0; turns person / 3 if race = 1; turns person / 2 if race = 2; turns person % 3 if race = 3");
     due("26 two at most", x.look(1), 2);
     due("26 the lowest race", x.look(0), 2);
+    for (int race = 0; race < 4; race++) {
+      Support.rule(x, "turns person % 2; turns person if race = " + race);
+      due("26 one at most", x.look(1), 1);
+      due("26 the one race", x.look(0), race);
+    }
   }
 
   private static void rankingAndCircles() {
@@ -618,6 +635,13 @@ public final class PromiseTest {
     due("27 half of all", x.ranking(0), 21);
     due("27 the first row", x.ranking(1), 0);
     due("28 each three once", x.circles(), 35);
+    NoSecond z = Support.isles(0, 0, 0);
+    z.image(0);
+    for (int p = 3; p < 7; p++) z.person(0, -1);
+    for (int p = 0; p < 7; p++) for (int q = 0; q < 7; q++) if (p != q) z.beats(p, q, 1);
+    due("27 half of all", z.ranking(0), 21);
+    z.back(0);
+    due("27 none broken", z.ranking(0), 0);
     NoSecond y = Support.isles(0, 0, 0, 0);
     y.beats(0, 1, 1);
     y.beats(1, 2, 1);
@@ -653,6 +677,11 @@ public final class PromiseTest {
     due("29 race 1", x.crowned(2), 7);
     due("29 race 2", x.crowned(3), 1);
     due("29 race 3", x.crowned(4), 7);
+    Support.rule(x, "bars if race = 0 or person = 1; runs 1");
+    due("29 one alone", x.crowned(0), 1);
+    due("29 nobody", x.crowned(1), 7);
+    due("29 the first as a row", x.crowned(2), 0);
+    due("29 nobody twice", x.crowned(3), 7);
   }
 
   private static void heir() {
@@ -778,6 +807,9 @@ public final class PromiseTest {
     Support.law(x, "runs 20");
     x.force(1);
     x.forget();
+    x.seen(3, 7);
+    x.seen(2, 7);
+    x.terms(2, 6);
     x.terms(0, 500);
     x.terms(1, 9);
     x.beats(1, 0, 1);
@@ -791,6 +823,7 @@ public final class PromiseTest {
     int[] want = {2, 1, 0, 0, 1, 1, 0, 0, 3, 1, 1, 0, 0, 0, 0, 1, 4};
     for (int what = 0; what < want.length; what++) due("38 count(" + what + ")", x.count(what), want[what]);
     due("38 strength", x.of(0, 4), 4);
+    due("38 seen", x.canBe(), 3);
     due("38 law", x.of(0, 8), 10);
     due("38 beats", x.beats(0, 1, 1) * 2 + x.beats(1, 0, 0), 2);
     due("38 the latest centuries stay", x.drawn(2, 2) >= 0 ? 1 : 0, 1);
