@@ -1105,8 +1105,9 @@ public final class NoSecond {
 
     /** Finds what sums and tests are worth, by words that are set ahead. */
     private static final class Machine {
-        static final long BROKEN = Long.MIN_VALUE;
         static final long WORTH_MOST = 1000000000L;
+        // Below all that two worths can be joined to.
+        static final long BROKEN = -9000000000000000000L;
 
         // In orders the words from here on are asked of a person, so each has a row of seven.
         static final int ORDER_PRIZES = 5;
@@ -1378,6 +1379,7 @@ public final class NoSecond {
         static final long WHOLE = 1000000000000L;
         static final int SETS = 1 << PEOPLE_MOST;
         static final int NOBODY = 7;
+        static final int MORE_THAN_ALL_BEATS = 1000;
 
         final Court court;
         final Isles isles;
@@ -1503,7 +1505,7 @@ public final class NoSecond {
             int all = (1 << isles.people) - 1;
             best[all] = 0;
             for (int ranked = all - 1; ranked >= 0; ranked--) {
-                int fewest = Integer.MAX_VALUE;
+                int fewest = MORE_THAN_ALL_BEATS;
                 for (int p = 0; p < isles.people; p++) {
                     if ((ranked >> p & 1) == 0) {
                         fewest = Math.min(fewest, brokenBy(p, ranked));

@@ -85,8 +85,7 @@ public final class RulesTest {
     Matcher imports = Pattern.compile("import ([\\w.]+);").matcher(bare);
     while (imports.find()) Support.so(imports.group(), imports.group(1).equals("java.util.Arrays"));
     Matcher calls = Pattern.compile("\\b(System|Arrays|Math|Integer|Long|String)\\.(\\w+)").matcher(bare);
-    Set<String> allowed = Set.of("System.arraycopy", "Arrays.fill", "Arrays.copyOf", "Math.max", "Math.min", "Integer.bitCount",
-        "Integer.MAX_VALUE", "Long.MIN_VALUE");
+    Set<String> allowed = Set.of("System.arraycopy", "Arrays.fill", "Arrays.copyOf", "Math.max", "Math.min", "Integer.bitCount");
     while (calls.find()) Support.so(calls.group(), allowed.contains(calls.group()));
   }
 
