@@ -87,7 +87,8 @@ final class Bounds {
     for (int i = 0; i < 5; i++) due(what + ": count(" + (8 + i) + ") behind back()", x.count(8 + i), counts[i]);
   }
 
-  private static void same(String what, NoSecond x, NoSecond twin) {
+  /** That one can't be told from the other by what it answers; both are spoilt then. */
+  static void same(String what, NoSecond x, NoSecond twin) {
     List<Long> all = told(x), want = told(twin);
     due(what + ": changes nothing: " + firstUnlike(all, want), all.equals(want) ? 1 : 0, 1);
   }

@@ -332,6 +332,23 @@ public final class BoundsPromisesTest {
     granted("some behind a refused back()", () -> { NoSecond y = Bounds.rich(); y.back(0); return y; }, NoSecond::undo, 3);
     granted("some behind image()", () -> { NoSecond y = Bounds.rich(); y.image(0); return y; }, NoSecond::undo, 3);
     granted("take is 2", () -> { NoSecond y = Bounds.rich(); y.take(0); return y; }, NoSecond::undo, 2);
+    NoSecond w = Bounds.rich();
+    w.take(0);
+    w.enter(2);
+    w.enter(0);
+    w.race(0);
+    Support.orders(w, "enter 2;race 1;pass");
+    // What it was, then prizes, the gap, trades, the year, how many are entered.
+    int[][] steps = {{3, 742, 3, 450, 1, 0}, {0, 740, 3, 450, 1, 1}, {1, 740, 3, 450, 1, 0}, {0, 720, 0, 350, 1, 2}, {1, 720, 0, 350, 1, 1}, {1, 720, 0, 350, 1, 2},
+        {2, 420, 3, 350, 1, 2}, {3, 420, 3, 350, 0, 2}, {1, 420, 3, 350, 0, 1}, {1, 420, 3, 350, 0, 0}, {0, 0, 0, 359, 0, 3}, {1, 0, 0, 359, 0, 2}};
+    for (int[] step : steps) {
+      due("undo", w.undo(), step[0]);
+      due("prizes", w.of(0, 1) * 100 + w.of(1, 1) * 10 + w.of(2, 1), step[1]);
+      due("the gap", w.count(2), step[2]);
+      due("trades", w.of(0, 0) * 100 + w.of(1, 0) * 10 + w.of(2, 0), step[3]);
+      due("the year", w.count(14), step[4]);
+      due("entered", w.count(1), step[5]);
+    }
     for (int n = 15; n <= 18; n++) kept(n);
     for (int n : new int[] {31, 32, 33, 40}) kept(n);
     NoSecond z = Support.isles(1, 2);

@@ -514,12 +514,21 @@ public final class BoundsTermsTest {
     due("status()", x.status(), 0);
 
     sentence("latest: what the latest race in it told (-1: none)");
+    NoSecond three = Support.isles(4, 5, 6);
+    due("the race's alone", Support.orders(three, "enter 2;race 0;enter 0;enter 0;pass;take 0 if gap > 0;pass if latest = 2;enter 1;race 1;enter 2;pass if latest = 1"), 10);
     NoSecond y = Support.isles(4, 5);
     due("none yet", Support.orders(y, "pass if latest = 0 - 1; pass if latest = 0"), 1);
     due("the race's", Support.orders(y, "enter 1; race 0; enter 0 if latest = 1; pass if latest = 1"), 4);
     due("none in this text", Support.orders(y, "pass if latest = 0 - 1; race 0; pass if latest = 0"), 3);
 
-    sentence("prizes, trade: -1 without such a PERSON");
+    sentence("entered: how many are, prizes, trade: -1 without such a PERSON");
+    NoSecond words = Bounds.rich();
+    due("how many are", Support.orders(words, "pass if entered = 2; enter 0; pass if entered = 3; enter 0 times 2 if entered = 2"), 3);
+    due("the gap", Support.orders(words, "pass if gap = 3; take 2; pass if gap = 0"), 3);
+    due("prizes", Support.orders(words, "pass if prizes 0 = 4; pass if prizes 1 = 2; pass if prizes 2 = 3"), 3);
+    due("trade", Support.orders(words, "pass if trade 0 = 3; pass if trade 1 = 5; pass if trade 2 = 0"), 3);
+    due("done", Support.orders(words, "pass if done = 0; pass if done = 0; pass if done = 1; pass if done = 2"), 3);
+    due("the year", Support.orders(words, "pass if year = 14; pass if year = 14; pass if year = 15"), 2);
     NoSecond z = Support.isles(4, 5);
     due("the last one", Support.orders(z, "pass if prizes 1 = 0; pass if trade 1 > 0 - 1"), 2);
     due("nobody", Support.orders(z, "pass if prizes 2 = 0 - 1; pass if trade 2 = 0 - 1; pass if prizes 6 = 0 - 1 and trade 6 = 0 - 1"), 3);
@@ -529,6 +538,7 @@ public final class BoundsTermsTest {
     String[] ends = {"enter 1/0", "race 1/0", "take 1/0", "take 1000*1000*1000+1", "race 4", "race 0-1", "race 1000*1000*1000", "enter 3", "enter 0-1", "enter 0-1000*1000*1000", "take 3", "take 0 - 1"};
     for (String end : ends) stops("pass times 3;enter 0;enter 1;" + end + ";pass", 3);
     stops("enter 1;enter 2;race 0", 2);
+    stops("enter 0;race 0;take 0;pass;enter 0;enter 1;race 1;take 1;take 1", 8);
     stops("take 0;take 0", 1);
     stops("enter 0 times 20;enter 1 times 20;enter 2 times 19;take 1;pass;take 1 times 2", 5);
     stops("race 4 times 20", 0);
@@ -722,6 +732,14 @@ public final class BoundsTermsTest {
     due("one alone", Support.isles(0).heir(-1), 1);
     due("the second stands aside", Support.isles(0, 0).heir(-1), 1);
     due("the third does not", Support.isles(0, 0, 0).heir(1), 2);
+    int[] roots = {0, 2, 3, 4, 5, 6};
+    NoSecond seven = Support.isles(0, 0, 0, 0, 0, 0, 0);
+    due("seven without parents", seven.heir(-1), 6);
+    for (int i = 0; i < 6; i++) due("seven without parents", seven.heir(i), roots[i]);
+    NoSecond mother = new NoSecond();
+    for (int p = 0; p < 7; p++) mother.person(0, p == 0 ? -1 : 0);
+    int[] children = {0, 1, 3, 4, 5, 6};
+    for (int i = 0; i < 6; i++) due("six children", mother.heir(i), children[i]);
     NoSecond chain = new NoSecond();
     for (int p = 0; p < 7; p++) chain.person(0, p - 1);
     for (int i = 0; i < 7; i++) due("a chain", chain.heir(i), i);
@@ -785,6 +803,13 @@ public final class BoundsTermsTest {
       due("prizes", x.drawn(0, 1), r[3]);
       due("entered", x.drawn(0, 2), r[4]);
       due("on paper", x.count(14) + x.count(3) + x.count(1), 0);
+    }
+    int[][] lawful = {{0, 29}, {5, 30}, {1000000, 13}};
+    for (int[] l : lawful) {
+      NoSecond x = Support.isles(0);
+      Support.rule(x, "wins 2 * race + 1");
+      x.centuries(l[0], 60);
+      due("the races that were drawn from " + l[0], x.drawn(0, 1), l[1]);
     }
     for (int n : new int[] {0, 61, -1, LEAST, MOST}) Bounds.refused("n " + n, Bounds::rich, x -> x.centuries(0, n), -1);
     for (int s : new int[] {-1, 1000001, LEAST, MOST}) Bounds.refused("seed " + s, Bounds::rich, x -> x.centuries(s, 1), -1);
@@ -850,11 +875,63 @@ public final class BoundsTermsTest {
     due("all else is as it was", x.count(14) + x.count(16) + x.count(1) + x.count(2) + x.count(3), 0);
   }
 
+  /** Empty isles are image 1, some others image 0; then all is made otherwise. */
+  private static NoSecond twoImages(boolean otherwise) {
+    NoSecond x = new NoSecond();
+    x.image(1);
+    for (int[] p : new int[][] {{3, -1}, {4, 0}, {9, 0}, {5, 1}}) x.person(p[0], p[1]);
+    Support.row(x, 0, 1, 2, 3, 4, 1, 5, 6, 7, 8, 2, 9, 8, 7, 6, 3, 5, 4, 3, 2);
+    for (int p = 0; p < 4; p++) x.beats(p, (p + 1) % 4, 1);
+    x.beats(0, 2, 1);
+    x.seen(1, 3);
+    x.seen(3, 5);
+    Support.rule(x, "runs strength * 7 % 10;bars if person = 1 and race = 3;turns race + 2;turns 9 if person = 1");
+    Support.law(x, "runs 50 - person");
+    x.terms(0, 7);
+    x.terms(1, 3);
+    x.terms(2, 8);
+    Support.orders(x, "enter 0;enter 1;enter 2;enter 3;race 0;enter 1;enter 3");
+    x.image(0);
+    if (otherwise) {
+      x.back(1);
+      for (int p = 0; p < 7; p++) x.person(p, p - 1);
+      Support.row(x, 0, 9, 9, 9, 9, 1, 0, 0, 0, 0, 2, 1, 1, 1, 1, 3, 9, 9, 9, 9);
+      for (int p = 6; p > 0; p--) x.beats(p, p - 1, 1);
+      for (int i = 0; i < 6; i++) { x.seen(i % 2, i); Support.law(x, "runs 3;bars if race = " + i % 4); }
+      x.force(4);
+      x.terms(0, 900);
+      x.terms(1, 9);
+      x.terms(2, 2);
+      Support.orders(x, "enter 0;enter 2;enter 5;race 1;take 6;enter 0;enter 6;pass times 3");
+    }
+    return x;
+  }
+
+  private static void backToAll() {
+    sentence("BACK to one all that it keeps is as it was then (IMAGES stay)");
+    NoSecond x = twoImages(true), twin = twoImages(false);
+    due("back to 0", x.back(0) + twin.back(0), 0);
+    // The texts that were read last were good ones, so that only what images keep can be unlike.
+    Bounds.same("as it was then", x, twin);
+    NoSecond again = twoImages(true);
+    again.back(0);
+    again.back(1);
+    NoSecond empty = new NoSecond();
+    empty.image(1);
+    for (int what = 0; what < 17; what++) due("empty again: count(" + what + ")", again.count(what), empty.count(what));
+    due("the first one", again.person(8, -1), 0);
+    due("has nothing", again.of(0, 1) + again.of(0, 2) + again.of(0, 4) + again.of(0, 5) + again.of(0, 6) + again.of(0, 7), 0);
+    due("image 0 stays", again.back(0), 0);
+    NoSecond other = twoImages(false);
+    other.back(0);
+    Bounds.same("image 0 stays", again, other);
+  }
+
   public static void main(String[] args) throws Exception {
     people(); whatPeopleHave(); whatElseThereIs(); orderOfRefusals();
     tape(); tokens(); clauses(); numbers(); parts(); brackets(); faults(); broken(); laws(); holds(); wins(); ordersText(); ordersRun();
     placed(); moves(); onPaper(); onPaperToo(); numbersOnPaper();
-    centuries(); rows(); images();
+    centuries(); rows(); images(); backToAll();
     Bounds.close("BoundsTermsTest", "## Terms", "The constants:");
   }
 }
